@@ -742,7 +742,8 @@ public final class SteamTunes {
     private static final class Reader {
         private static final int MOST_BYTES = 160, MOST_OPEN = 4, MOST_LETTERS = 5, MOST_FIGURES = 2, MOST_ROUNDS = 20;
         private static final int NOWHERE = -1;
-        private static final int NO_TOKEN = 1, CAN_NOT_STAND = 2, NUMBER_BOUNDS = 3, LETTERS = 4, TOO_DEEP = 5, TOO_LONG = 6;
+        private static final int NO_TOKEN = 1, CAN_NOT_STAND = 2, NUMBER_BOUNDS = 3;
+        private static final int LETTERS = 4, TOO_DEEP = 5, TOO_LONG = 6;
         // Kinds of tokens.
         private static final int END = 0, CHORD = 1, NUMBER = 2, REST = 3, OPEN = 4, CLOSE = 5;
         // What may stand next: an item; an item, a close or the end; an open; nothing, for the text has ended.

@@ -17,6 +17,7 @@ public final class TunesTest {
         set();
         setWithRests();
         setTies();
+        setAskedInTurn();
         CHECK.finish();
     }
 
@@ -379,5 +380,32 @@ public final class TunesTest {
         CHECK.due("then both", x.set(0, 0, 4, 0, 11), 3);
         CHECK.due("at 0 one chord: the first is the greater", x.set(0, 0, 0, 0, 10), 3);
         CHECK.due("and the second is silent", x.set(0, 0, 0, 0, 11), 0);
+    }
+
+    /** What was found for one question must not answer another one. */
+    private static void setAskedInTurn() {
+        SteamTunes x = alike(2, 4, 10);
+        Check.tune(x, "a a a");
+        Check.tune(x, "a");
+        x.fire(0);
+        for (int i = 0; i < 2; i++) {
+            // 100, 96, 92.
+            CHECK.due("the first tune", x.set(0, 0, 8, 0, 0), 3);
+            CHECK.due("the other tune", x.set(1, 0, 8, 0, 0), 1);
+            CHECK.due("the first again", x.set(0, 0, 8, 0, 10), 1);
+            CHECK.due("another key", x.set(0, 1, 8, 0, 10), 2);
+            CHECK.due("another bound", x.set(0, 1, 4, 0, 0), 2);
+            CHECK.due("the bound again", x.set(0, 1, 8, 0, 0), 3);
+            CHECK.due("other rests", x.set(0, 1, 8, 1, 1), 0);
+        }
+        x.fire(4);
+        x.pressure(84);
+        CHECK.due("behind an act", x.set(1, 0, 8, 0, 0), 0);
+        CHECK.due("with a rest", x.set(1, 0, 8, 1, 0), 1);
+        CHECK.due("without", x.set(1, 0, 8, 0, 0), 0);
+        x.undo();
+        CHECK.due("undone", x.set(1, 0, 8, 0, 0), 1);
+        x.crack(0, 9);
+        CHECK.due("another act", x.set(1, 0, 8, 0, 0), 0);
     }
 }
