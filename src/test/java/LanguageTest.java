@@ -109,6 +109,7 @@ public final class LanguageTest {
             Matcher m = Pattern.compile(pattern).matcher(code);
             CHECK.due("ruled out: " + word, m.find() ? 1 : 0, 0);
         }
+        madeOnce(code);
         int length = 0;
         String name = "";
         for (String line : text.split("\n")) {
@@ -122,5 +123,19 @@ public final class LanguageTest {
                 length = 0;
             }
         }
+    }
+
+    /** All calls of a run share one room that is never swept: rows are made with the object, and the table of set once. */
+    private static void madeOnce(String code) {
+        int later = 0;
+        for (String line : code.split("\n")) {
+            boolean isField = line.matches(" +(private )?final [\\w\\[\\]]+ \\w+ = new .*");
+            if (line.matches(".*\\bnew\\b.*") && !isField) {
+                later++;
+                CHECK.due("made in a call: " + line.trim(), line.trim().startsWith("table = new int[") ? 1 : 0, 1);
+            }
+            CHECK.due("a copy made: " + line.trim(), line.matches(".*\\b(clone|copyOf|copyOfRange|toCharArray)\\(.*") ? 1 : 0, 0);
+        }
+        CHECK.due("rows made in calls", later, 1);
     }
 }
